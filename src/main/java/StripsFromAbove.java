@@ -133,19 +133,12 @@ public final class StripsFromAbove {
         if (tapeSize + n > TAPE) {
             return FULL;
         }
+        // All five, since what lies behind the tape's end is never looked at, and written over by what comes next.
         put(tape, tapeSize, a);
-        if (n > 1) {
-            put(tape, tapeSize + 1, b);
-        }
-        if (n > 2) {
-            put(tape, tapeSize + 2, c);
-        }
-        if (n > 3) {
-            put(tape, tapeSize + 3, d);
-        }
-        if (n > 4) {
-            put(tape, tapeSize + 4, e);
-        }
+        put(tape, tapeSize + 1, b);
+        put(tape, tapeSize + 2, c);
+        put(tape, tapeSize + 3, d);
+        put(tape, tapeSize + 4, e);
         tapeSize += n;
         return tapeSize;
     }
