@@ -1013,7 +1013,6 @@ public final class StripsFromAbove {
 
         void clear() {
             size = 0;
-            Arrays.fill(bounds, 0);
         }
 
         void add(int work, int value) {

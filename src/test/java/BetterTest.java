@@ -110,6 +110,17 @@ public final class BetterTest {
         eleven.strip(0, 1);
         CHECKS.due("no room", eleven.again(0), -1);
         CHECKS.due("no room, as now", eleven.again(1), 48);
+        StripsFromAbove least = nearSighted(3, 6, 9);
+        CHECKS.due("LINE 0 is as good as 1", least.again(0), 0);
+        CHECKS.due("by two columns", least.again(1), 176);
+        StripsFromAbove across = nearSighted(201, 204, 207, 210);
+        across.load(0, 0, 4 * 12 + 4 * 4 + 6);
+        for (int m = 0; m < 192; m++) {
+            across.land(m, 1, m % 12 < 6 ? 1 : 0);
+        }
+        // Six steps along cover rows 12 to 15 by going back alone; across, by going back, three rows of six columns.
+        CHECKS.due("across, back", across.again(0), 313);
+        CHECKS.due("across, back, how many", across.again(1), 12 * 6 + 3 * 6);
         StripsFromAbove rows = nearSighted(201, 204, 207, 210);
         rows.load(0, 0, 999);
         CHECKS.due("across", rows.again(0), 213);
@@ -205,6 +216,10 @@ public final class BetterTest {
         // Five clicks, a mile each, cover rows 0 to 5; two clicks cover five rows, every 7 three clicks eight.
         CHECKS.due("with little film", x.seldom(0), 7);
         CHECKS.due("with little film, clicks", x.seldom(1), 3);
+        x.load(0, 1, 200);
+        Checks.law(x, "sees (row = 1) * 9;drifts 0;frosts 0;");
+        CHECKS.due("row 1 is clicked over by EVERY 1 alone", x.seldom(0), 1);
+        CHECKS.due("sixteen clicks", x.seldom(1), 16);
         x.set(2, -1);
         CHECKS.due("none flies", x.seldom(0), -1);
         CHECKS.due("none flies, what first", x.seldom(2), -2);

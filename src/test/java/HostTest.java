@@ -182,6 +182,7 @@ public final class HostTest {
             CHECKS.due("kind " + kind + " taken for a STRIP", x.taken(1, 6), -13);
         }
         StripsFromAbove x = Checks.withStrips(Checks.withPlane(0, 0), 5, 307);
+        CHECKS.due("taken(0, 0)", x.taken(0, 0), 0);
         CHECKS.due("taken(4, 6)", x.taken(4, 6), 5);
         CHECKS.due("taken(5, 6)", x.taken(5, 6), 307);
         CHECKS.due("taken(5, 0)", x.taken(5, 0), -13);

@@ -91,6 +91,16 @@ public final class LawTest {
         fault("sees 1234567890123456789012345;", 5);
         fault("sees hills;", 5);
         fault("sees hil;", 5);
+        fault("sees dill;", 5);
+        fault("sees hillz;", 5);
+        fault("sees ahill;", 5);
+        fault("sees clicksx;", 5);
+        fault("sees hillhill;", 5);
+        fault("sees -x 1;", 6);
+        fault("sees (x 1);", 6);
+        fault("sees not x 1;", 9);
+        fault("sees -! 1;", 6);
+        fault("sees -12345 1;", 6);
         fault("sees drifts;", 5);
         fault("sees 3 ! ;", 7);
         fault("sees 3\t;", 6);

@@ -206,6 +206,8 @@ public final class PicturesTest {
         CHECKS.due("film(3, 15), a sheet of bytes before", x.film(3, 15), 6);
         CHECKS.due("it tells so", x.judge(3, 15), -1);
         CHECKS.due("of 12 shorts", x.cell(3, 12, 0), -12);
+        CHECKS.due("film(3, 0)", x.film(3, 0), 7);
+        CHECKS.due("it tells of row 0", x.judge(3, 0), -1);
         x.set(2, -1);
         CHECKS.due("none flies", x.film(3, 15), 0);
         CHECKS.due("it tells nothing", x.judge(3, 0), -1);
