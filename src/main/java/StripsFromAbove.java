@@ -261,7 +261,7 @@ public final class StripsFromAbove {
         if (what < 0 || what > 6) {
             return BAD;
         }
-        flyAs(now);
+        flyNow();
         switch (what) {
             case 0: return trip.coveredMiles(now.clouds, 1);
             case 1: return trip.coveredMiles(now.clouds, 2);
@@ -277,7 +277,7 @@ public final class StripsFromAbove {
         if (!isMile(m)) {
             return NO_SUCH;
         }
-        flyAs(now);
+        flyNow();
         return trip.times(now.clouds, m);
     }
 
@@ -285,7 +285,7 @@ public final class StripsFromAbove {
         if (!isMile(k)) {
             return NOT_SO;
         }
-        flyAs(now);
+        flyNow();
         int ahead = 0;
         for (int m = 0; m < MILES; m++) {
             if (trip.times(now.clouds, m) == 0) {
@@ -519,7 +519,7 @@ public final class StripsFromAbove {
         if (y < 0 || y >= ROWS) {
             return NO_SUCH;
         }
-        flyAs(now);
+        flyNow();
         sheet.become(SHORTS, COLUMNS);
         int covered = 0;
         for (int x = 0; x < COLUMNS; x++) {
@@ -538,7 +538,7 @@ public final class StripsFromAbove {
         if (seed < 0 || seed > MOST_SEED || odds < 0 || odds > 100) {
             return BAD;
         }
-        flyAs(now);
+        flyNow();
         drawClouds(seed, odds);
         return trip.coveredMiles(thought.clouds, 1);
     }
@@ -548,7 +548,7 @@ public final class StripsFromAbove {
                 || miles < 0 || miles > MILES || !isHalf(part)) {
             return NO;
         }
-        flyAs(now);
+        flyNow();
         int above = 0;
         for (int day = 0; day < days; day++) {
             drawClouds(seed + day, odds);
@@ -699,12 +699,12 @@ public final class StripsFromAbove {
         return s >= 0 && s < sheetRow.length ? sheetRow[s] : null;
     }
 
-    private void flyAs(Scene scene) {
-        trip.fly(scene, lawAt(scene.law));
+    private void flyNow() {
+        trip.fly(now, lawAt(now.law));
     }
 
     private int coveredBy(Scene scene) {
-        flyAs(scene);
+        trip.fly(scene, lawAt(scene.law));
         return trip.coveredMiles(scene.clouds, 1);
     }
 
@@ -749,7 +749,7 @@ public final class StripsFromAbove {
         if (sheet == null) {
             return NONE;
         }
-        flyAs(scene);
+        trip.fly(scene, lawAt(scene.law));
         for (int x = 0; x < COLUMNS; x++) {
             if (at(sheet.cells, x) != trip.times(scene.clouds, COLUMNS * y + x)) {
                 return x;
@@ -780,11 +780,11 @@ public final class StripsFromAbove {
 
     private static boolean isOfKind(int kind, int wanted) {
         int above = kind;
-        for (int n = 0; n < ABOVE.length && above != NONE; n++) {
+        for (int n = 0; n < ABOVE.length && above >= 0 && above < ABOVE.length; n++) {
             if (above == wanted) {
                 return true;
             }
-            above = at(ABOVE, above);
+            above = ABOVE[above];
         }
         return false;
     }
@@ -1239,8 +1239,10 @@ public final class StripsFromAbove {
             for (int w = 0; w < WORD_COUNT; w++) {
                 boolean same = true;
                 for (int i = 0; i < LETTERS; i++) {
-                    int letter = i < letters ? at(tape, place + i) : ' ';
-                    if (letterOf(LETTERS * w + i) != letter) {
+                    int from = place + i;
+                    int to = LETTERS * w + i;
+                    int letter = i < letters && from >= 0 && from < tape.length ? tape[from] : ' ';
+                    if (to >= WORDS.length() || WORDS.charAt(to) != letter) {
                         same = false;
                     }
                 }
@@ -1249,10 +1251,6 @@ public final class StripsFromAbove {
                 }
             }
             return NONE;
-        }
-
-        private static int letterOf(int i) {
-            return i >= 0 && i < WORDS.length() ? WORDS.charAt(i) : NONE;
         }
 
         private void readNumber() {
