@@ -54,7 +54,7 @@ public final class LawTest {
         String[] sees = {
             "sees 3 - hill ;", " \n sees\n3-hill  ;", "sees3;", "sees 9999;", "sees 0000;", "sees(((((1)))));",
             "sees not not not not not 1;", "sees -----1;", "sees not -(not -1);", "sees (not 1)+(not (((1))));",
-            "sees 1<2;", "sees (1<2)<3;", "sees 1+2-3*4;", "sees 1 or 0 and not 1 < 2;", "sees 1--1;", "sees -1--1;",
+            "sees 1<2;", "sees (1<2)<3;", "sees (((((3-2<1*2)))));", "sees 1+2-3*4;", "sees 1 or 0 and not 1 < 2;", "sees 1--1;", "sees -1--1;",
             "sees hill*wind*more*hour*clicks*row;",
             "sees -1 - -1 - -1 - -1 - -1 - -1 - -1;", "sees not 1 and not 1 and not 1 and not 1 and not 1 and not 1;",
         };
