@@ -34,6 +34,19 @@ public final class BetterSentencesTest {
         return run.toString();
     }
 
+    /** CLOUDS over all MILES but these. */
+    private static String cloudsBut(int... miles) {
+        StringBuilder run = new StringBuilder();
+        for (int m = 0; m < 192; m++) {
+            boolean free = false;
+            for (int mile : miles) {
+                free |= mile == m;
+            }
+            run.append(free ? "" : "land(" + m + ", 1, 1)\n");
+        }
+        return run.toString();
+    }
+
     private static void badWhat() {
         int promise = 19;
         for (String call : new String[] {"spare(", "again(", "apart(0, 0, 0, ", "begin(1, ", "seldom(", "who(", "when(", "tuft("}) {
@@ -149,6 +162,17 @@ public final class BetterSentencesTest {
             again(0) = NONE
             again(1) = 32
             """);
+        THE.holds("20: the first WAY and LINE of all", NARROW + """
+            again(0) = 0
+            again(1) = 16
+            """);
+        // One CLICK alone covers something, that of STEP 7; borne aside by 9 it covers these MILES from LINES -1 only.
+        String oneClick = "load(0, 2, 7)\nload(0, 1, 2)\n";
+        THE.holds("20: no LINE ahead of the first", "plane(0, 0)\nlaw \"sees 0;drifts 9;frosts (clicks<2)*100;\"\n" + oneClick
+            + cloudsBut(74, 110, 54, 51) + "again(0) = NONE\nagain(1) = 0\n");
+        // As much the other way, from LINES 12 along, 16 across.
+        THE.holds("20: no LINE behind the last", "plane(0, 0)\nlaw \"sees 0;drifts -9;frosts (clicks<2)*100;\"\n" + oneClick
+            + cloudsBut(81, 117, 138, 135) + "again(0) = NONE\nagain(1) = 0\n");
         THE.holds("20: of no STRIPS", NEAR + """
             again(0) = 1
             again(1) = 48
@@ -232,6 +256,12 @@ public final class BetterSentencesTest {
             plane(0, 0)
             apart(0, 9, 0, 0) = 9
             apart(0, 9, 0, 1) = 16
+            """);
+        // Twelve STRIPS, which are no LINES apart, would last till there is light.
+        THE.holds("21: 9 .. 1, and none that is 0 apart", NARROW + """
+            set(1, 9)
+            apart(0, 9, 1, 0) = NONE
+            apart(0, 9, 1, 1) = -1
             """);
         THE.holds("21: -1: none; minutes -1", NARROW + """
             apart(0, 1, 177, 0) = NONE

@@ -4,6 +4,7 @@ public final class CountrySentencesTest {
 
     public static void main(String[] args) {
         aNewObject();
+        callsOfOneObject();
         count();
         set();
         setRefuses();
@@ -36,6 +37,21 @@ public final class CountrySentencesTest {
         THE.holds("Terms: THE TAPE, nothing on it at first", "count(7) = 0");
         THE.holds("Terms: SHEETS are missing, as all are at first", "0..3: cell(#, 0, 0) = -11");
         THE.holds("35: STATE: there is no IMAGE at first", "back() = STATE");
+    }
+
+    private static void callsOfOneObject() {
+        THE.holds("What it is: at most 512 calls: the last of them answers, too", """
+            plane(0, 0)
+            load(0, 2, 1)
+            1..10: strip(0, 0)
+            strip(0, 5) = 11
+            1..498: again(1) = 192
+            again(0) = 8
+            """);
+        THE.holds("What it is: at most 512 calls: the last TEXT is read, too", """
+            1..511: text() = -100
+            text() = -100
+            """);
     }
 
     private static void count() {

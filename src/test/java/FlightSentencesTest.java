@@ -529,6 +529,16 @@ public final class FlightSentencesTest {
             set(1, 11)
             flight(4) = 0
             """);
+        THE.holds("THE LAW: hour: HOUR, however many minutes are flown", """
+            plane(0, 0)
+            1..8: strip(2, 0)
+            law "sees 0;drifts 0;frosts (hour=11)*100;"
+            flight(5) = 124
+            flight(4) = 0
+            set(1, 11)
+            flight(3) = 48
+            flight(4) = 48
+            """);
         THE.holds("2: the hour goes on behind midnight, and is 14 or more", """
             plane(2, 0)
             load(0, 0, 999)

@@ -418,6 +418,12 @@ public final class HostSentencesTest {
             landBy(0, 2, 2, 0) = 0
             mile(5, 0) = 0
             """);
+        THE.holds("39: n of them: of none no place is outside", """
+            ints 0: 5 3
+            landBy(0, 2, -1, 0) = 0
+            landBy(0, 2, 3, 0) = 0
+            landBy(0, 2, MAX, 0) = 0
+            """);
         THE.holds("39: n of them (0 .. 20): twenty", """
             sheet(0, 0, 40)
             cell(0, 38, 7)

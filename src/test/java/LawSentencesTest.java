@@ -9,6 +9,7 @@ public final class LawSentencesTest {
         feedRefuses();
         text();
         words();
+        wordsThatAreNone();
         numbers();
         signsAndBlanks();
         textsOfThreeParts();
@@ -150,6 +151,16 @@ public final class LawSentencesTest {
             feed(1, 32, 0, 0, 0, -1) = BAD
             count(7) = 0
             """);
+        THE.holds("6: BAD changes nothing on THE TAPE", """
+            feed(5, 115, 101, 101, 115, 32) = 5
+            feed(5, 256, 32, 32, 32, 32) = BAD
+            feed(5, 32, 32, 32, 32, -1) = BAD
+            feed(1, 32, 256, 32, 32, 32) = BAD
+            feed(0, 32, 32, 32, 32, 32) = BAD
+            feed(6, 32, 32, 32, 32, 32) = BAD
+            count(7) = 5
+            text "7;drifts 0;frosts 0;" = 1
+            """);
         THE.holds("6: FULL: they have not all room (none comes)", """
             1..31: feed(5, 32, 32, 32, 32, 32)
             feed(1, 32, 32, 32, 32, 32) = 156
@@ -232,6 +243,30 @@ public final class LawSentencesTest {
             "sees-1;drifts-1;frosts-1;", "sees not(1)or(1)and(1);drifts 1or 1and 1;frosts hill<wind;");
         faults("WORDS: a .. z, no great ones", "^Sees 1;", "sees ^Hill;", "sees ^hiLL;", "sees 1 ^OR 1;");
         noE("a blank ends a WORD", "^hi ll", "^no t 1", "1 ^o r 1", "hill ^hill");
+        noE("WORDS: a and z are letters, too", "^hillz", "^hilla", "^zhill", "^ahill", "1 ^orz 1", "1 ^aor 1");
+    }
+
+    /** Each KEY and each NAME, a letter of it otherwise, or one less, or one more, is neither. */
+    private static void wordsThatAreNone() {
+        String[] words = {"sees", "drifts", "frosts", "or", "and", "not", "hill", "wind", "more", "hour", "clicks", "row"};
+        String[] ahead = {"", "sees 1;", "sees 1;drifts 1;", "sees 1 ", "sees 1 ", "sees ", "sees ", "sees ", "sees ", "sees ", "sees ",
+            "sees "};
+        String[] behind = {" 1;drifts 1;frosts 1;", " 1;frosts 1;", " 1;", " 1;drifts 1;frosts 1;", " 1;drifts 1;frosts 1;",
+            " 1;drifts 1;frosts 1;"};
+        for (int w = 0; w < words.length; w++) {
+            String rest = w < behind.length ? behind[w] : ";drifts 1;frosts 1;";
+            java.util.List<String> texts = new java.util.ArrayList<>();
+            for (int i = 0; i <= words[w].length(); i++) {
+                String start = ahead[w] + "^" + words[w].substring(0, i);
+                texts.add(start + "x" + words[w].substring(i) + rest);
+                if (i < words[w].length()) {
+                    texts.add(start + (char) (words[w].charAt(i) + 1) + words[w].substring(i + 1) + rest);
+                    texts.add(start + words[w].substring(i + 1) + rest);
+                }
+            }
+            right("TEXT: " + words[w] + " may stand there", ahead[w] + words[w] + rest);
+            faults("FAULT: of a WORD that is not " + words[w], texts.toArray(new String[0]));
+        }
     }
 
     private static void numbers() {
@@ -321,6 +356,8 @@ public final class LawSentencesTest {
             "sees 1 ^1;drifts 12345;");
         faults("FAULT: of a WORD that is neither KEY nor NAME", "^see 1;", "^seess 1;", "sees ^hil;", "sees ^x;", "sees ^click;",
             "sees 1 ^x;", "sees 1;^drift 1;", "sees 1;drifts 1;^frost 1;", "^a", "^z");
+        noE("FAULT: of what begins no ONE, where another ONE could begin", "-^x 1", "(^x 1)", "not ^x 1", "-^! 1", "(^! 1)", "not ^! 1",
+            "-^12345 1", "(^12345 1)", "not ^12345 1", "1+^x 1", "1*^! 1", "1<^12345 1", "1 or ^x 1", "1 and ^! 1");
         faults("FAULT: of a WORD, as long as the TAPE", "^" + "z".repeat(160));
         faults("FAULT: of a NUMBER that is too long, as long as the TAPE", "sees ^" + "9".repeat(155));
     }
@@ -417,6 +454,21 @@ public final class LawSentencesTest {
             text "sees 2;drifts 0;frosts 0;" = 2
             force(2) = 0
             asks(0, 0, 0, 0) = 2
+            """);
+        THE.holds("Terms: a FAULT leaves nothing to the TEXT behind it", """
+            plane(0, 0)
+            text "sees 5+5;drifts 5+5;frosts not not 5+5*5" = -140
+            text "sees 7;drifts 8;frosts 9;" = 1
+            force(1) = 0
+            asks(0, 0, 0, 0) = 7
+            asks(1, 0, 0, 0) = 8
+            asks(2, 0, 0, 0) = 9
+            new
+            plane(0, 0)
+            text "sees 1;drifts 1;frosts not 1" = -128
+            text "sees 7;drifts 8;frosts 9;" = 1
+            force(1) = 0
+            asks(2, 0, 0, 0) = 9
             """);
     }
 

@@ -154,6 +154,8 @@ public final class PictureSentencesTest {
         THE.holds("29: PLANES, bit 3", four + "0..2: load(#, 1, 0)\n" + tells(3, 1) + "kinds(0, 0, 3) = 8\ncount(4) = 0\n");
         THE.holds("29: PLANES, bit 0", four + "1..3: load(#, 0, 0)\nset(2, 2)\n" + tells(3, 1) + "kinds(0, 0, 3) = 1\ncount(4) = 2\n");
         THE.holds("29: PLANES, all four", four + tells(3, 1) + "kinds(0, 0, 3) = 15\n");
+        THE.holds("29: PLANES, as many as there are", "plane(0, 0)\nints 0:" + NOTHING + "kinds(0, 0, 3) = 1\nplane(5, 5)\nkinds(0, 0, 3) = 3\n"
+            + "plane(5, 5)\nkinds(0, 0, 3) = 7\nplane(5, 5)\nkinds(0, 0, 3) = 15\n");
         THE.holds("29: PLANES, none", four + tells(3, 2) + "kinds(0, 0, 3) = 0\n");
         THE.holds("29: PLANES, none that is none since back()", "plane(0, 0)\n" + NARROW + "strips 3\nimage()\nplane(0, 0)\n" + tells(3, 1)
             + "kinds(0, 0, 3) = 3\nback() = 1\nkinds(0, 0, 3) = 1\n");
@@ -183,6 +185,8 @@ public final class PictureSentencesTest {
             + "judge(1, 1) = NONE\njudge(0, 1) = NONE\n");
         THE.holds("31: ROWS 0 and 15", one + "load(0, 1, 1)\nstrips 103\nfilm(0, 15) = 1\nfilm(1, 0) = 0\njudge(0, 15) = NONE\n"
             + "judge(1, 0) = NONE\njudge(1, 15) = 3\n");
+        THE.holds("31: COLUMNS 0 .. 11 of the ROW alone", one + "strips 0\nfilm(0, 0) = 1\nfilm(0, 15) = 1\ndrop(0)\nstrips 11\nfilm(0, 1) = 1\n"
+            + "film(0, 15) = 1\njudge(0, 15) = NONE\n");
         THE.holds("31: a MILE under a CLOUD", one + "strips 200\nland(0, 1, 1)\nland(11, 1, 1)\nfilm(0, 0) = 10\njudge(0, 0) = NONE\n");
         THE.holds("31: a SHEET truly becomes that: 12 shorts", one + """
             strips 200
